@@ -409,13 +409,13 @@ public final class KeeperTree {
             this.kind = kind;
         }
 
-        /** STARTING: whether it is up then. */
+        /** STARTING one that is down: whether it is up then. */
         abstract boolean rise(Journal journal);
 
-        /** STOPPING. */
+        /** STOPPING one that is up. */
         abstract void fall(Journal journal);
 
-        /** KILLED at once, with all below: how many were up. */
+        /** KILLED at once, with all below that are up: how many that were. */
         abstract int perish(Journal journal);
 
         /** GONE, with all below: how many that are. */
@@ -436,12 +436,10 @@ public final class KeeperTree {
             this.failures = failures;
         }
 
-        @Override
         boolean rise(Journal journal) {
             journal.time += startUnits;
             if (failures > 0) {
                 failures--;
-                state = DOWN;
                 journal.tell(TOLD_FAILED, number, 0);
                 return false;
             }
@@ -450,7 +448,6 @@ public final class KeeperTree {
             return true;
         }
 
-        @Override
         void fall(Journal journal) {
             boolean inTime = patience == NONE || patience > 0 && stopUnits <= patience;
             journal.time += inTime ? stopUnits : patience;
@@ -458,14 +455,12 @@ public final class KeeperTree {
             journal.tell(inTime ? TOLD_STOPPED : TOLD_KILLED, number, 0);
         }
 
-        @Override
         int perish(Journal journal) {
             state = DOWN;
             journal.tell(TOLD_KILLED, number, 0);
             return 1;
         }
 
-        @Override
         int vanish() {
             state = GONE;
             return 1;
@@ -487,12 +482,10 @@ public final class KeeperTree {
             this.t = t;
         }
 
-        @Override
         boolean rise(Journal journal) {
             restarts.clear();
             if (riseFrom(0, journal) != null) {
                 fallAll(journal);
-                state = DOWN;
                 journal.tell(TOLD_FAILED, number, 0);
                 return false;
             }
@@ -501,14 +494,12 @@ public final class KeeperTree {
             return true;
         }
 
-        @Override
         void fall(Journal journal) {
             fallAll(journal);
             state = DOWN;
             journal.tell(TOLD_STOPPED, number, 0);
         }
 
-        @Override
         int perish(Journal journal) {
             int count = 1;
             for (int i = row.size() - 1; i >= 0; i--) {
@@ -522,7 +513,6 @@ public final class KeeperTree {
             return count;
         }
 
-        @Override
         int vanish() {
             state = GONE;
             int count = 1;

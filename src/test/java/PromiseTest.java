@@ -31,6 +31,7 @@ public final class PromiseTest {
         firstRefuses();
         promise = 3;
         keepers();
+        keepersStrategyAndBounds();
         keeperRefuses();
         depthAndNumberAreLimited();
         promise = 4;
@@ -188,6 +189,26 @@ public final class PromiseTest {
         x.stop(2);
         due("keeper of one that is down", x.keeper(2, PERMANENT, ONE, 1, 5), 5);
         due("stays down", x.state(5), 0);
+    }
+
+    private static void keepersStrategyAndBounds() {
+        String[] told = {"E3:2@0 U3@0", "E3:2@0 K4@0 K2@0 U2@0 U3@0 U4@0", "E3:2@0 K4@0 U3@0 U4@0"};
+        for (int strategy = 0; strategy <= 2; strategy++) {
+            KeeperTree x = new KeeperTree();
+            x.keeper(0, TRANSIENT, strategy, 1, 3);
+            for (int i = 0; i < 3; i++) {
+                x.worker(1, PERMANENT, 0, 0, 0, 0);
+            }
+            x.begin();
+            x.ends(3, 2);
+            dueEvents("strategy " + strategy, x, 5, told[strategy]);
+            x.pass(4);
+            x.ends(3, 2);
+            due("t 3 is over", x.state(1), 1);
+            x.pass(3);
+            x.ends(3, 2);
+            due("r 1 is passed", x.state(1), 0);
+        }
     }
 
     private static void keeperRefuses() {
@@ -586,7 +607,7 @@ public final class PromiseTest {
         refuses(x, ARGUMENT, "-1", () -> x.kill(-1));
         due("keeper 0", x.kill(0), 3);
         dueEvents("all", x, 10, "K2@5 K1@5 K0@5");
-        due("keeper 0 is down", x.state(0), 0);
+        due("none is up", x.total(2), 0);
         due("none gave up", x.total(6), 0);
         due("counted", x.total(5), 2);
         due("the killed one's reason", x.event(4, 3), 0);
@@ -889,12 +910,12 @@ public final class PromiseTest {
         x.first(ONE, 50, 1);
         x.worker(0, PERMANENT, 0, 2, 0, 0);
         x.begin();
-        for (int i = 0; i < 20; i++) {
+        for (int i = 0; i < 40; i++) {
             x.failing(1, 50);
             x.ends(1, 2);
         }
-        due("in all", x.total(5), 20 * 51);
-        due("TIME", x.total(0), 2 + 2 * 20 * 51);
+        due("in all", x.total(5), 40 * 51);
+        due("TIME", x.total(0), 2 + 2 * 40 * 51);
         x.kill(0);
         x.first(ONE, 50, 1000);
         due("as far as the widest t reaches", x.about(0, 6), 500);
