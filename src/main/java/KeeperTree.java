@@ -1,6 +1,6 @@
 import java.util.ArrayList;
 
-/** A tree of keepers and workers; the promises named below are those of the project's document. */
+/** Keepers and workers as a tree; words in capitals here are the terms of the document. */
 public final class KeeperTree {
     public static final int NONE = -1;
 
