@@ -1,50 +1,25 @@
-import java.util.ArrayList;
-import java.util.Arrays;
-import java.util.List;
-
 /** One method for each promise of the document: ordinary inputs, the edges it names, wrong inputs. */
-public final class PromiseTest {
-    private static final int NONE = KeeperTree.NONE;
-    private static final int ONE = 0;
-    private static final int ALL = 1;
-    private static final int REST = 2;
-    private static final int PERMANENT = 0;
-    private static final int TRANSIENT = 1;
-    private static final int TEMPORARY = 2;
-    private static final Class<? extends Exception> ARGUMENT = IllegalArgumentException.class;
-    private static final Class<? extends Exception> STATE = IllegalStateException.class;
-
-    private static int wrong = 0;
-    private static int promise = 0;
-
-    private interface Call {
-        void run();
-    }
-
+public final class PromiseTest extends Checks {
     public static void main(String[] args) {
-        promise = 1;
+        subject("promise 1");
         newObject();
         newObjectsBounds();
-        promise = 2;
+        subject("promise 2");
         firstSetsStrategyAndBounds();
         firstKeepsWhatIsCounted();
-        firstRefuses();
-        promise = 3;
+        subject("promise 3");
         keepers();
         keepersStrategyAndBounds();
-        keeperRefuses();
-        depthAndNumberAreLimited();
-        promise = 4;
+        subject("promise 4");
         workers();
         workerThatFailsAtOnceIsGone();
-        workerRefuses();
-        promise = 5;
+        subject("promise 5");
         failing();
-        promise = 6;
+        subject("promise 6");
         beginStartsInOrder();
         beginFails();
         beginEmptiesTheCount();
-        promise = 7;
+        subject("promise 7");
         endsByKindAndReason();
         endsWithStrategyOne();
         endsWithStrategyAll();
@@ -54,42 +29,37 @@ public final class PromiseTest {
         countedByTime();
         givingUpClimbs();
         restartsOfAKeeper();
-        endsRefuses();
-        promise = 8;
+        subject("promise 8");
         kill();
         killBelowAndAbove();
-        promise = 9;
+        subject("promise 9");
         stopByPatience();
         stopOfAKeeper();
-        stopRefuses();
-        promise = 10;
+        subject("promise 10");
         again();
-        promise = 11;
+        subject("promise 11");
         remove();
-        promise = 12;
+        subject("promise 12");
         pass();
-        promise = 13;
+        subject("promise 13");
         state();
-        promise = 14;
+        subject("promise 14");
         about();
-        promise = 15;
+        subject("promise 15");
         child();
-        promise = 16;
+        subject("promise 16");
         event();
         onlySixHundredEventsAreKept();
-        promise = 17;
+        subject("promise 17");
         total();
         manyRestartsStayCounted();
-        System.out.println(wrong == 0 ? "all answers are as due" : wrong + " answers are not as due");
-        if (wrong != 0) {
-            System.exit(1);
-        }
+        closeTest();
     }
 
     // ---- promise 1
 
     private static void newObject() {
-        KeeperTree x = new KeeperTree();
+        Tree x = new Tree();
         due("NONE", NONE, -1);
         due("state(0)", x.state(0), 0);
         dueRow("about 0", abouts(x, 0), NONE, 0, 0, 0, 1, 0, 0, NONE);
@@ -98,7 +68,7 @@ public final class PromiseTest {
     }
 
     private static void newObjectsBounds() {
-        KeeperTree x = new KeeperTree();
+        Tree x = new Tree();
         x.worker(0, PERMANENT, 0, 0, 0, 0);
         x.worker(0, PERMANENT, 0, 0, 0, 0);
         x.begin();
@@ -115,7 +85,7 @@ public final class PromiseTest {
     // ---- promise 2
 
     private static void firstSetsStrategyAndBounds() {
-        KeeperTree x = new KeeperTree();
+        Tree x = new Tree();
         x.first(ALL, 0, 1);
         x.first(ONE, 50, 1000);
         x.first(REST, 1, 3);
@@ -137,7 +107,7 @@ public final class PromiseTest {
     }
 
     private static void firstKeepsWhatIsCounted() {
-        KeeperTree x = new KeeperTree();
+        Tree x = new Tree();
         x.first(ONE, 50, 1);
         x.worker(0, PERMANENT, 0, 1, 0, 0);
         x.begin();
@@ -155,25 +125,10 @@ public final class PromiseTest {
         due("started", x.about(0, 6), 0);
     }
 
-    private static void firstRefuses() {
-        KeeperTree x = new KeeperTree();
-        refuses(x, ARGUMENT, "strategy -1", () -> x.first(-1, 1, 1));
-        refuses(x, ARGUMENT, "strategy 3", () -> x.first(3, 1, 1));
-        refuses(x, ARGUMENT, "r -1", () -> x.first(0, -1, 1));
-        refuses(x, ARGUMENT, "r 51", () -> x.first(0, 51, 1));
-        refuses(x, ARGUMENT, "t 0", () -> x.first(0, 1, 0));
-        refuses(x, ARGUMENT, "t 1001", () -> x.first(0, 1, 1001));
-        x.begin();
-        refuses(x, STATE, "it is up", () -> x.first(0, 1, 1));
-        refuses(x, ARGUMENT, "up and wrong", () -> x.first(3, 1, 1));
-        x.kill(0);
-        x.first(0, 1, 1);
-    }
-
     // ---- promise 3
 
     private static void keepers() {
-        KeeperTree x = new KeeperTree();
+        Tree x = new Tree();
         due("first keeper", x.keeper(0, TEMPORARY, ALL, 0, 1), 1);
         due("second keeper", x.keeper(1, TRANSIENT, REST, 50, 1000), 2);
         due("third keeper", x.keeper(0, PERMANENT, ONE, 1, 5), 3);
@@ -194,7 +149,7 @@ public final class PromiseTest {
     private static void keepersStrategyAndBounds() {
         String[] told = {"E3:2@0 U3@0", "E3:2@0 K4@0 K2@0 U2@0 U3@0 U4@0", "E3:2@0 K4@0 U3@0 U4@0"};
         for (int strategy = 0; strategy <= 2; strategy++) {
-            KeeperTree x = new KeeperTree();
+            Tree x = new Tree();
             x.keeper(0, TRANSIENT, strategy, 1, 3);
             for (int i = 0; i < 3; i++) {
                 x.worker(1, PERMANENT, 0, 0, 0, 0);
@@ -211,50 +166,10 @@ public final class PromiseTest {
         }
     }
 
-    private static void keeperRefuses() {
-        KeeperTree x = new KeeperTree();
-        x.worker(0, PERMANENT, 0, 0, 0, 0);
-        x.keeper(0, PERMANENT, ONE, 1, 5);
-        x.remove(2);
-        refuses(x, ARGUMENT, "of -1", () -> x.keeper(-1, 0, 0, 1, 5));
-        refuses(x, ARGUMENT, "of none", () -> x.keeper(3, 0, 0, 1, 5));
-        refuses(x, ARGUMENT, "of 80", () -> x.keeper(80, 0, 0, 1, 5));
-        refuses(x, ARGUMENT, "of a worker", () -> x.keeper(1, 0, 0, 1, 5));
-        refuses(x, ARGUMENT, "of a gone one", () -> x.keeper(2, 0, 0, 1, 5));
-        refuses(x, ARGUMENT, "kind -1", () -> x.keeper(0, -1, 0, 1, 5));
-        refuses(x, ARGUMENT, "kind 3", () -> x.keeper(0, 3, 0, 1, 5));
-        refuses(x, ARGUMENT, "strategy -1", () -> x.keeper(0, 0, -1, 1, 5));
-        refuses(x, ARGUMENT, "strategy 3", () -> x.keeper(0, 0, 3, 1, 5));
-        refuses(x, ARGUMENT, "r -1", () -> x.keeper(0, 0, 0, -1, 5));
-        refuses(x, ARGUMENT, "r 51", () -> x.keeper(0, 0, 0, 51, 5));
-        refuses(x, ARGUMENT, "t 0", () -> x.keeper(0, 0, 0, 1, 0));
-        refuses(x, ARGUMENT, "t 1001", () -> x.keeper(0, 0, 0, 1, 1001));
-    }
-
-    private static void depthAndNumberAreLimited() {
-        KeeperTree x = new KeeperTree();
-        for (int i = 1; i <= 8; i++) {
-            due("keeper at depth", x.keeper(i - 1, PERMANENT, ONE, 1, 5), i);
-        }
-        due("depth", x.about(8, 2), 8);
-        refuses(x, STATE, "keeper too deep", () -> x.keeper(8, 0, 0, 1, 5));
-        refuses(x, STATE, "worker too deep", () -> x.worker(8, 0, 0, 0, 0, 0));
-        refuses(x, ARGUMENT, "keeper too deep and wrong", () -> x.keeper(8, 3, 0, 1, 5));
-        refuses(x, ARGUMENT, "worker too deep and wrong", () -> x.worker(8, 3, 0, 0, 0, 0));
-        for (int i = 9; i < 80; i++) {
-            due("number", x.worker(7, PERMANENT, 0, 0, 0, 0), i);
-        }
-        refuses(x, STATE, "an 81st keeper", () -> x.keeper(0, 0, 0, 1, 5));
-        refuses(x, STATE, "an 81st worker", () -> x.worker(0, 0, 0, 0, 0, 0));
-        refuses(x, ARGUMENT, "an 81st wrong one", () -> x.worker(0, 0, 0, 0, 0, 51));
-        due("remove(1)", x.remove(1), 79);
-        refuses(x, STATE, "gone ones count", () -> x.worker(0, 0, 0, 0, 0, 0));
-    }
-
     // ---- promise 4
 
     private static void workers() {
-        KeeperTree x = new KeeperTree();
+        Tree x = new Tree();
         due("first worker", x.worker(0, PERMANENT, NONE, 0, 0, 0), 1);
         due("second worker", x.worker(0, TEMPORARY, 1000, 100, 100, 50), 2);
         dueRow("about 1", abouts(x, 1), 0, 0, 1, 0, 0, NONE, NONE, 0);
@@ -270,7 +185,7 @@ public final class PromiseTest {
 
     private static void workerThatFailsAtOnceIsGone() {
         for (int kind = 0; kind <= 2; kind++) {
-            KeeperTree x = new KeeperTree();
+            Tree x = new Tree();
             x.begin();
             due("FAILED", x.worker(0, kind, 0, 3, 0, 2), NONE);
             dueEvents("failed and gone", x, 1, "F1@3 X1@3");
@@ -281,40 +196,19 @@ public final class PromiseTest {
         }
     }
 
-    private static void workerRefuses() {
-        KeeperTree x = new KeeperTree();
-        x.worker(0, PERMANENT, 0, 0, 0, 0);
-        x.keeper(0, PERMANENT, ONE, 1, 5);
-        x.remove(2);
-        refuses(x, ARGUMENT, "of -1", () -> x.worker(-1, 0, 0, 0, 0, 0));
-        refuses(x, ARGUMENT, "of none", () -> x.worker(3, 0, 0, 0, 0, 0));
-        refuses(x, ARGUMENT, "of a worker", () -> x.worker(1, 0, 0, 0, 0, 0));
-        refuses(x, ARGUMENT, "of a gone one", () -> x.worker(2, 0, 0, 0, 0, 0));
-        refuses(x, ARGUMENT, "kind -1", () -> x.worker(0, -1, 0, 0, 0, 0));
-        refuses(x, ARGUMENT, "kind 3", () -> x.worker(0, 3, 0, 0, 0, 0));
-        refuses(x, ARGUMENT, "patience -2", () -> x.worker(0, 0, -2, 0, 0, 0));
-        refuses(x, ARGUMENT, "patience 1001", () -> x.worker(0, 0, 1001, 0, 0, 0));
-        refuses(x, ARGUMENT, "start -1", () -> x.worker(0, 0, 0, -1, 0, 0));
-        refuses(x, ARGUMENT, "start 101", () -> x.worker(0, 0, 0, 101, 0, 0));
-        refuses(x, ARGUMENT, "stop -1", () -> x.worker(0, 0, 0, 0, -1, 0));
-        refuses(x, ARGUMENT, "stop 101", () -> x.worker(0, 0, 0, 0, 101, 0));
-        refuses(x, ARGUMENT, "failures -1", () -> x.worker(0, 0, 0, 0, 0, -1));
-        refuses(x, ARGUMENT, "failures 51", () -> x.worker(0, 0, 0, 0, 0, 51));
-    }
-
     // ---- promise 5
 
     private static void failing() {
-        KeeperTree x = new KeeperTree();
+        Tree x = new Tree();
         x.worker(0, PERMANENT, 0, 0, 0, 3);
         x.keeper(0, PERMANENT, ONE, 1, 5);
         x.worker(0, PERMANENT, 0, 0, 0, 0);
         x.remove(3);
         due("as made", x.failing(1, 50), 3);
         due("as set", x.failing(1, 1), 50);
-        due("begin", truth(x.begin()), 0);
+        due("begin", x.begin(), false);
         due("one less", x.failing(1, 0), 0);
-        due("begin again", truth(x.begin()), 1);
+        due("begin again", x.begin(), true);
         due("while up", x.failing(1, 2), 0);
         refuses(x, ARGUMENT, "failures -1", () -> x.failing(1, -1));
         refuses(x, ARGUMENT, "failures 51", () -> x.failing(1, 51));
@@ -328,22 +222,22 @@ public final class PromiseTest {
     // ---- promise 6
 
     private static void beginStartsInOrder() {
-        KeeperTree x = new KeeperTree();
+        Tree x = new Tree();
         x.worker(0, PERMANENT, 0, 2, 0, 0);
         x.keeper(0, TRANSIENT, ONE, 1, 5);
         x.worker(2, TEMPORARY, 0, 3, 0, 0);
         x.worker(0, TRANSIENT, 0, 1, 0, 0);
         x.worker(2, PERMANENT, 0, 4, 0, 0);
-        due("begin", truth(x.begin()), 1);
+        due("begin", x.begin(), true);
         dueEvents("in order", x, 0, "U1@2 U3@5 U5@9 U2@9 U4@10 U0@10");
         refuses(x, STATE, "it is up", () -> x.begin());
         x.kill(0);
-        due("begin again", truth(x.begin()), 1);
+        due("begin again", x.begin(), true);
         due("all up", x.total(2), 6);
     }
 
     private static void beginFails() {
-        KeeperTree x = new KeeperTree();
+        Tree x = new Tree();
         x.worker(0, TEMPORARY, 5, 1, 2, 0);
         x.keeper(0, PERMANENT, ONE, 1, 5);
         x.worker(2, TEMPORARY, 5, 1, 3, 0);
@@ -353,7 +247,7 @@ public final class PromiseTest {
         x.worker(5, PERMANENT, 0, 1, 1, 1);
         x.worker(5, PERMANENT, 0, 1, 1, 1);
         x.worker(0, PERMANENT, 0, 1, 1, 1);
-        due("begin", truth(x.begin()), 0);
+        due("begin", x.begin(), false);
         dueEvents("those that are up are stopped", x, 0,
                 "U1@1 U3@2 U2@2 U4@3 U6@4 F7@5 K6@7 F5@7 S4@97 S3@100 S2@100 S1@102 F0@102");
         due("none is up", x.total(2), 0);
@@ -363,14 +257,14 @@ public final class PromiseTest {
         due("that failed", x.about(7, 7), 0);
         due("behind it", x.about(8, 7), 1);
         due("behind its keeper", x.about(9, 7), 1);
-        due("second begin", truth(x.begin()), 0);
-        due("third begin", truth(x.begin()), 0);
-        due("fourth begin", truth(x.begin()), 1);
+        due("second begin", x.begin(), false);
+        due("third begin", x.begin(), false);
+        due("fourth begin", x.begin(), true);
         due("temporary ones start again", x.total(2), 10);
     }
 
     private static void beginEmptiesTheCount() {
-        KeeperTree x = new KeeperTree();
+        Tree x = new Tree();
         x.worker(0, PERMANENT, 0, 0, 0, 0);
         x.begin();
         x.ends(1, 2);
@@ -390,7 +284,7 @@ public final class PromiseTest {
     private static void endsByKindAndReason() {
         for (int kind = 0; kind <= 2; kind++) {
             for (int reason = 0; reason <= 9; reason++) {
-                KeeperTree x = new KeeperTree();
+                Tree x = new Tree();
                 x.worker(0, kind, 0, 0, 0, 0);
                 x.begin();
                 x.ends(1, reason);
@@ -406,8 +300,8 @@ public final class PromiseTest {
     }
 
     /** Four workers, each with one unit to start and one to stop, of which the third ended normally. */
-    private static KeeperTree fourWorkers(int strategy) {
-        KeeperTree x = new KeeperTree();
+    private static Tree fourWorkers(int strategy) {
+        Tree x = new Tree();
         x.first(strategy, 3, 100);
         x.worker(0, PERMANENT, 1, 1, 1, 0);
         x.worker(0, PERMANENT, 1, 1, 1, 0);
@@ -419,20 +313,20 @@ public final class PromiseTest {
     }
 
     private static void endsWithStrategyOne() {
-        KeeperTree x = fourWorkers(ONE);
+        Tree x = fourWorkers(ONE);
         x.ends(2, 2);
         dueEvents("ONE", x, 6, "E2:2@4 U2@5");
         due("one that is down stays so", x.state(3), 0);
     }
 
     private static void endsWithStrategyAll() {
-        KeeperTree x = fourWorkers(ALL);
+        Tree x = fourWorkers(ALL);
         x.ends(2, 2);
         dueEvents("ALL", x, 6, "E2:2@4 S4@5 S1@6 U1@7 U2@8 U3@9 U4@10");
     }
 
     private static void endsWithStrategyRest() {
-        KeeperTree x = fourWorkers(REST);
+        Tree x = fourWorkers(REST);
         x.ends(2, 2);
         dueEvents("REST", x, 6, "E2:2@4 S4@5 U2@6 U3@7 U4@8");
         x.ends(4, 2);
@@ -449,7 +343,7 @@ public final class PromiseTest {
         };
         int[] gone = {0, 3, 2};
         for (int strategy = 0; strategy <= 2; strategy++) {
-            KeeperTree x = new KeeperTree();
+            Tree x = new Tree();
             x.first(strategy, 3, 100);
             x.worker(0, TEMPORARY, 1, 0, 0, 0);
             x.worker(0, PERMANENT, 1, 0, 0, 0);
@@ -463,7 +357,7 @@ public final class PromiseTest {
             due("gone with strategy " + strategy, x.total(3), gone[strategy]);
             due("place of 5 with strategy " + strategy, x.about(5, 1), new int[] {4, 2, 3}[strategy]);
         }
-        KeeperTree y = new KeeperTree();
+        Tree y = new Tree();
         y.first(ALL, 3, 100);
         y.worker(0, PERMANENT, 1, 0, 0, 0);
         y.keeper(0, PERMANENT, ONE, 1, 5);
@@ -474,25 +368,25 @@ public final class PromiseTest {
     }
 
     private static void failuresInRestarts() {
-        KeeperTree one = fourWorkers(ONE);
+        Tree one = fourWorkers(ONE);
         one.failing(2, 2);
         one.ends(2, 2);
         dueEvents("ONE", one, 6, "E2:2@4 F2@5 F2@6 U2@7");
         due("ONE counts", one.about(0, 6), 3);
 
-        KeeperTree all = fourWorkers(ALL);
+        Tree all = fourWorkers(ALL);
         all.failing(3, 1);
         all.ends(2, 2);
         dueEvents("ALL", all, 6, "E2:2@4 S4@5 S1@6 U1@7 U2@8 F3@9 S2@10 S1@11 U1@12 U2@13 U3@14 U4@15");
         due("ALL counts", all.about(0, 6), 2);
 
-        KeeperTree rest = fourWorkers(REST);
+        Tree rest = fourWorkers(REST);
         rest.failing(3, 1);
         rest.ends(2, 2);
         dueEvents("REST", rest, 6, "E2:2@4 S4@5 U2@6 F3@7 U3@8 U4@9");
         due("REST counts", rest.about(0, 6), 2);
 
-        KeeperTree over = fourWorkers(REST);
+        Tree over = fourWorkers(REST);
         over.failing(3, 9);
         over.ends(2, 2);
         dueEvents("too often", over, 6, "E2:2@4 S4@5 U2@6 F3@7 F3@8 F3@9 G0@9 S2@10 S1@11");
@@ -502,7 +396,7 @@ public final class PromiseTest {
 
     private static void countedByTime() {
         for (int units = 2; units <= 3; units++) {
-            KeeperTree x = new KeeperTree();
+            Tree x = new Tree();
             x.first(ONE, 2, 6);
             x.worker(0, PERMANENT, 0, 0, 0, 0);
             x.begin();
@@ -525,7 +419,7 @@ public final class PromiseTest {
             "E4:2@0 G2@0 S5@1 S3@2 X2@2",
         };
         for (int kind : kinds) {
-            KeeperTree x = new KeeperTree();
+            Tree x = new Tree();
             x.keeper(0, PERMANENT, ALL, 0, 5);
             x.keeper(1, kind, ONE, 0, 5);
             x.worker(2, TEMPORARY, 1, 0, 1, 0);
@@ -539,7 +433,7 @@ public final class PromiseTest {
             due("counted, kind " + kind, x.total(5), kind == PERMANENT ? 3 : 1);
             due("gone, kind " + kind, x.total(3), kind == TEMPORARY ? 4 : 0);
         }
-        KeeperTree deep = new KeeperTree();
+        Tree deep = new Tree();
         deep.first(ONE, 0, 1);
         for (int i = 0; i < 7; i++) {
             deep.keeper(i, PERMANENT, ONE, 0, 1);
@@ -552,7 +446,7 @@ public final class PromiseTest {
     }
 
     private static void restartsOfAKeeper() {
-        KeeperTree x = new KeeperTree();
+        Tree x = new Tree();
         x.first(ONE, 5, 100);
         x.keeper(0, PERMANENT, ONE, 1, 100);
         x.worker(1, TEMPORARY, 1, 0, 0, 0);
@@ -567,30 +461,10 @@ public final class PromiseTest {
         due("counted by keeper 0", x.about(0, 6), 2);
     }
 
-    private static void endsRefuses() {
-        KeeperTree x = new KeeperTree();
-        x.worker(0, TRANSIENT, 0, 0, 0, 0);
-        x.keeper(0, PERMANENT, ONE, 1, 5);
-        x.worker(0, TEMPORARY, 0, 0, 0, 0);
-        refuses(x, STATE, "down", () -> x.ends(1, 2));
-        refuses(x, ARGUMENT, "down and wrong", () -> x.ends(1, 10));
-        x.begin();
-        x.ends(3, 0);
-        refuses(x, ARGUMENT, "reason -1", () -> x.ends(1, -1));
-        refuses(x, ARGUMENT, "reason 10", () -> x.ends(1, 10));
-        refuses(x, ARGUMENT, "a keeper", () -> x.ends(2, 2));
-        refuses(x, ARGUMENT, "keeper 0", () -> x.ends(0, 2));
-        refuses(x, ARGUMENT, "a gone one", () -> x.ends(3, 2));
-        refuses(x, ARGUMENT, "none", () -> x.ends(4, 2));
-        refuses(x, ARGUMENT, "-1", () -> x.ends(-1, 2));
-        x.ends(1, 1);
-        refuses(x, STATE, "ended", () -> x.ends(1, 2));
-    }
-
     // ---- promise 8
 
     private static void kill() {
-        KeeperTree x = new KeeperTree();
+        Tree x = new Tree();
         x.first(ONE, 9, 5);
         x.worker(0, PERMANENT, NONE, 1, 50, 0);
         x.worker(0, TRANSIENT, NONE, 1, 50, 0);
@@ -614,7 +488,7 @@ public final class PromiseTest {
     }
 
     private static void killBelowAndAbove() {
-        KeeperTree x = new KeeperTree();
+        Tree x = new Tree();
         x.first(REST, 1, 5);
         x.worker(0, PERMANENT, 3, 0, 1, 0);
         x.keeper(0, TRANSIENT, ONE, 0, 5);
@@ -645,7 +519,7 @@ public final class PromiseTest {
         int[] units = {0, 5, 0, 2, 3, 4, 0, 100, 100};
         String[] told = {"K1@0", "K1@0", "S1@0", "S1@2", "S1@3", "K1@3", "S1@0", "S1@100", "S1@100"};
         for (int i = 0; i < told.length; i++) {
-            KeeperTree x = new KeeperTree();
+            Tree x = new Tree();
             x.worker(0, PERMANENT, patience[i], 0, units[i], 0);
             x.begin();
             x.stop(1);
@@ -656,7 +530,7 @@ public final class PromiseTest {
     }
 
     private static void stopOfAKeeper() {
-        KeeperTree x = new KeeperTree();
+        Tree x = new Tree();
         x.keeper(0, TRANSIENT, ALL, 1, 5);
         x.worker(1, TEMPORARY, 9, 0, 1, 0);
         x.worker(1, TRANSIENT, 9, 0, 2, 0);
@@ -674,26 +548,10 @@ public final class PromiseTest {
         due("below", x.state(6), 2);
     }
 
-    private static void stopRefuses() {
-        KeeperTree x = new KeeperTree();
-        x.worker(0, PERMANENT, 0, 0, 0, 0);
-        x.worker(0, TEMPORARY, 0, 0, 0, 0);
-        refuses(x, STATE, "down", () -> x.stop(1));
-        refuses(x, ARGUMENT, "0 is no child", () -> x.stop(0));
-        x.begin();
-        x.stop(2);
-        refuses(x, ARGUMENT, "0 is no child, though up", () -> x.stop(0));
-        refuses(x, ARGUMENT, "a gone one", () -> x.stop(2));
-        refuses(x, ARGUMENT, "none", () -> x.stop(3));
-        refuses(x, ARGUMENT, "-1", () -> x.stop(-1));
-        x.stop(1);
-        refuses(x, STATE, "stopped", () -> x.stop(1));
-    }
-
     // ---- promise 10
 
     private static void again() {
-        KeeperTree x = new KeeperTree();
+        Tree x = new Tree();
         x.keeper(0, TRANSIENT, ONE, 0, 5);
         x.worker(1, TEMPORARY, 1, 1, 1, 0);
         x.worker(1, PERMANENT, 1, 1, 1, 0);
@@ -710,17 +568,17 @@ public final class PromiseTest {
         x.stop(3);
         x.failing(3, 1);
         int from = x.total(4);
-        due("worker that fails", truth(x.again(3)), 0);
+        due("worker that fails", x.again(3), false);
         due("stays down", x.state(3), 0);
-        due("worker", truth(x.again(3)), 1);
+        due("worker", x.again(3), true);
         dueEvents("worker", x, from, "F3@4 U3@5");
         x.ends(3, 2);
         due("keeper gave up", x.about(1, 6), 1);
         refuses(x, STATE, "its keeper is down", () -> x.again(3));
         x.failing(3, 1);
         from = x.total(4);
-        due("keeper that fails", truth(x.again(1)), 0);
-        due("keeper", truth(x.again(1)), 1);
+        due("keeper that fails", x.again(1), false);
+        due("keeper", x.again(1), true);
         dueEvents("keeper", x, from, "U2@7 F3@8 S2@9 F1@9 U2@10 U3@11 U1@11");
         due("its count is empty", x.about(1, 6), 0);
         due("nothing more is counted", x.total(5), 1);
@@ -729,7 +587,7 @@ public final class PromiseTest {
     // ---- promise 11
 
     private static void remove() {
-        KeeperTree x = new KeeperTree();
+        Tree x = new Tree();
         x.worker(0, PERMANENT, 0, 0, 0, 0);
         x.keeper(0, PERMANENT, ONE, 1, 5);
         x.worker(2, PERMANENT, 0, 0, 0, 0);
@@ -761,7 +619,7 @@ public final class PromiseTest {
     // ---- promise 12
 
     private static void pass() {
-        KeeperTree x = new KeeperTree();
+        Tree x = new Tree();
         due("pass(0)", x.pass(0), 0);
         due("pass(7)", x.pass(7), 7);
         due("pass(10000)", x.pass(10000), 10007);
@@ -777,7 +635,7 @@ public final class PromiseTest {
     // ---- promise 13
 
     private static void state() {
-        KeeperTree x = new KeeperTree();
+        Tree x = new Tree();
         x.worker(0, TEMPORARY, 0, 0, 0, 0);
         due("down", x.state(1), 0);
         x.begin();
@@ -796,7 +654,7 @@ public final class PromiseTest {
     // ---- promise 14
 
     private static void about() {
-        KeeperTree x = new KeeperTree();
+        Tree x = new Tree();
         x.first(ONE, 9, 10);
         x.worker(0, TEMPORARY, 0, 0, 0, 0);
         x.keeper(0, TRANSIENT, ONE, 3, 2);
@@ -825,7 +683,7 @@ public final class PromiseTest {
     // ---- promise 15
 
     private static void child() {
-        KeeperTree x = new KeeperTree();
+        Tree x = new Tree();
         x.worker(0, TEMPORARY, 0, 0, 0, 0);
         x.keeper(0, PERMANENT, ONE, 1, 5);
         x.worker(2, PERMANENT, 0, 0, 0, 0);
@@ -851,7 +709,7 @@ public final class PromiseTest {
     // ---- promise 16
 
     private static void event() {
-        KeeperTree x = new KeeperTree();
+        Tree x = new Tree();
         x.worker(0, PERMANENT, 0, 3, 0, 0);
         x.begin();
         x.ends(1, 7);
@@ -867,7 +725,7 @@ public final class PromiseTest {
     }
 
     private static void onlySixHundredEventsAreKept() {
-        KeeperTree x = new KeeperTree();
+        Tree x = new Tree();
         for (int i = 0; i < 50; i++) {
             x.worker(0, TRANSIENT, 0, 0, 0, 0);
         }
@@ -884,7 +742,7 @@ public final class PromiseTest {
     // ---- promise 17
 
     private static void total() {
-        KeeperTree x = new KeeperTree();
+        Tree x = new Tree();
         x.first(ONE, 1, 5);
         x.keeper(0, TRANSIENT, ONE, 0, 5);
         x.worker(1, PERMANENT, 0, 2, 0, 0);
@@ -906,7 +764,7 @@ public final class PromiseTest {
     }
 
     private static void manyRestartsStayCounted() {
-        KeeperTree x = new KeeperTree();
+        Tree x = new Tree();
         x.first(ONE, 50, 1);
         x.worker(0, PERMANENT, 0, 2, 0, 0);
         x.begin();
@@ -919,105 +777,5 @@ public final class PromiseTest {
         x.kill(0);
         x.first(ONE, 50, 1000);
         due("as far as the widest t reaches", x.about(0, 6), 500);
-    }
-
-    // ---- what the methods above are written in
-
-    private static void due(String call, long got, long want) {
-        if (got != want) {
-            tellWrong(call, Long.toString(got), Long.toString(want));
-        }
-    }
-
-    private static void dueRow(String call, int[] got, int... want) {
-        String gotText = Arrays.toString(got);
-        String wantText = Arrays.toString(want);
-        if (!gotText.equals(wantText)) {
-            tellWrong(call, gotText, wantText);
-        }
-    }
-
-    /** Events as letter, node, an END's reason and TIME: up, Failed, Stopped, Killed, End, Gave up, X gone. */
-    private static void dueEvents(String call, KeeperTree x, int from, String want) {
-        List<String> told = new ArrayList<>();
-        for (int i = from; i < x.total(4); i++) {
-            String reason = x.event(i, 0) == 5 ? ":" + x.event(i, 3) : "";
-            told.add(" UFSKEGX".charAt(x.event(i, 0)) + "" + x.event(i, 1) + reason + "@" + x.event(i, 2));
-        }
-        String got = String.join(" ", told);
-        if (!got.equals(want)) {
-            tellWrong(call, got, want);
-        }
-    }
-
-    private static void refuses(KeeperTree x, Class<? extends Exception> want, String call, Call refused) {
-        String before = everything(x);
-        Class<?> got = null;
-        try {
-            refused.run();
-        } catch (RuntimeException e) {
-            got = e.getClass();
-        }
-        if (got != want) {
-            tellWrong(call, "throws " + got, "throws " + want);
-        }
-        if (!before.equals(everything(x))) {
-            tellWrong(call, "a change", "no change");
-        }
-    }
-
-    private static void tellWrong(String call, String got, String want) {
-        wrong++;
-        System.out.println("promise " + promise + ": " + call + " answered " + got + ", due is " + want);
-    }
-
-    private static int truth(boolean answer) {
-        return answer ? 1 : 0;
-    }
-
-    private static int[] abouts(KeeperTree x, int node) {
-        int[] row = new int[8];
-        for (int what = 0; what < row.length; what++) {
-            row[what] = x.about(node, what);
-        }
-        return row;
-    }
-
-    private static int[] totals(KeeperTree x) {
-        int[] row = new int[7];
-        for (int what = 0; what < row.length; what++) {
-            row[what] = x.total(what);
-        }
-        return row;
-    }
-
-    private static int[] row(KeeperTree x, int keeper) {
-        int[] row = new int[x.about(keeper, 5)];
-        for (int i = 0; i < row.length; i++) {
-            row[i] = x.child(keeper, i);
-        }
-        return row;
-    }
-
-    private static int[] eventRow(KeeperTree x, int i) {
-        int[] row = new int[4];
-        for (int what = 0; what < row.length; what++) {
-            row[what] = x.event(i, what);
-        }
-        return row;
-    }
-
-    private static String everything(KeeperTree x) {
-        StringBuilder all = new StringBuilder(Arrays.toString(totals(x)));
-        for (int node = 0; node < x.total(1); node++) {
-            all.append(' ').append(x.state(node));
-            if (x.state(node) != 2) {
-                all.append(Arrays.toString(abouts(x, node)));
-            }
-        }
-        for (int i = 0; i < Math.min(600, x.total(4)); i++) {
-            all.append(Arrays.toString(eventRow(x, i)));
-        }
-        return all.toString();
     }
 }

@@ -1,11 +1,11 @@
 import java.util.Random;
 
 /** Long runs of calls, right and wrong ones, with what must hold after every one of them. */
-public final class RandomRunsTest {
-    private static final int RUNS = 400;
-    private static final int CALLS = 512;
+public final class RandomRunsTest extends Checks {
+    private static final int RUNS = 60;
+    private static final int CALLS = 250;
 
-    private final KeeperTree tree = new KeeperTree();
+    private final Tree tree = new Tree();
     private final Random random;
     private final int run;
     private final int[] keeperOf = new int[80];
@@ -19,7 +19,7 @@ public final class RandomRunsTest {
     private RandomRunsTest(int run) {
         this.run = run;
         this.random = new Random(run);
-        keeperOf[0] = KeeperTree.NONE;
+        keeperOf[0] = NONE;
     }
 
     public static void main(String[] args) {
@@ -37,18 +37,13 @@ public final class RandomRunsTest {
 
     private void go() {
         for (int i = 0; i < CALLS && right; i++) {
-            String before = everything();
-            int made = tree.total(1);
-            boolean refused = false;
+            Tree before = tree.copy();
             try {
                 call();
             } catch (RuntimeException e) {
-                refused = true;
-                want(e.getClass() == IllegalArgumentException.class
-                        || e.getClass() == IllegalStateException.class, "throws " + e.getClass());
+                want(e.getClass() == ARGUMENT || e.getClass() == STATE, "throws " + e.getClass());
+                want(everything(before).equals(everything(tree)), "a refused call changes nothing");
             }
-            want(!refused || before.equals(everything()), "a refused call changes nothing");
-            want(made == tree.total(1) || !refused, "a refused call makes nothing");
             replay();
             lookAtTree();
         }
@@ -78,7 +73,7 @@ public final class RandomRunsTest {
                 int number = tree.worker(of, within(0, 2), within(-1, 5), within(0, 3), within(0, 6),
                         random.nextInt(4) == 0 ? within(0, 3) : 0);
                 keeperOf[made] = of;
-                want(number == (tree.state(made) == 2 ? KeeperTree.NONE : made), "the worker's number");
+                want(number == (tree.state(made) == 2 ? NONE : made), "the worker's number");
                 break;
             case 3:
                 lastCall = "failing";
@@ -159,7 +154,7 @@ public final class RandomRunsTest {
             }
         }
         if (tree.total(4) > 600) {
-            want(tree.event(599, 0) > 0 && tree.event(600, 0) == KeeperTree.NONE, "600 events are kept");
+            want(tree.event(599, 0) > 0 && tree.event(600, 0) == NONE, "600 events are kept");
             return;
         }
         want(gaveUp == tree.total(6), "keepers that gave up");
@@ -197,20 +192,6 @@ public final class RandomRunsTest {
         want(tree.state(node) == 0 || tree.state(keeper) == 1, "only a keeper that is up has children up");
         want(tree.about(node, 3) != 2 || tree.state(node) == tree.state(keeper),
                 "a temporary child is up as long as its keeper");
-    }
-
-    private String everything() {
-        StringBuilder all = new StringBuilder();
-        for (int what = 0; what < 7; what++) {
-            all.append(tree.total(what)).append(' ');
-        }
-        for (int node = 0; node < tree.total(1); node++) {
-            all.append(tree.state(node)).append(' ');
-            for (int what = 0; what < 8 && tree.state(node) != 2; what++) {
-                all.append(tree.about(node, what)).append(' ');
-            }
-        }
-        return all.toString();
     }
 
     private void want(boolean holds, String what) {
