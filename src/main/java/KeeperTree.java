@@ -412,6 +412,13 @@ public final class KeeperTree {
         /** STARTING one that is down: whether it is up then. */
         abstract boolean rise(Journal journal);
 
+        /** What a start comes to, and whether it is up then. */
+        boolean settle(boolean failed, Journal journal) {
+            state = failed ? DOWN : UP;
+            journal.tell(failed ? TOLD_FAILED : TOLD_UP, number, 0);
+            return !failed;
+        }
+
         /** STOPPING one that is up. */
         abstract void fall(Journal journal);
 
@@ -438,14 +445,11 @@ public final class KeeperTree {
 
         boolean rise(Journal journal) {
             journal.time += startUnits;
-            if (failures > 0) {
+            boolean failed = failures > 0;
+            if (failed) {
                 failures--;
-                journal.tell(TOLD_FAILED, number, 0);
-                return false;
             }
-            state = UP;
-            journal.tell(TOLD_UP, number, 0);
-            return true;
+            return settle(failed, journal);
         }
 
         void fall(Journal journal) {
@@ -484,14 +488,11 @@ public final class KeeperTree {
 
         boolean rise(Journal journal) {
             restarts.clear();
-            if (riseFrom(0, journal) != null) {
+            boolean failed = riseFrom(0, journal) != null;
+            if (failed) {
                 fallAll(journal);
-                journal.tell(TOLD_FAILED, number, 0);
-                return false;
             }
-            state = UP;
-            journal.tell(TOLD_UP, number, 0);
-            return true;
+            return settle(failed, journal);
         }
 
         void fall(Journal journal) {

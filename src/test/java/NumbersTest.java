@@ -223,17 +223,17 @@ public final class NumbersTest extends Checks {
     private static void event() {
         subject("promise 16, event");
         Numbered call = (x, n) -> x.event(n[0], n[1]);
-        for (int i : new int[] {LEAST, -1, 0, 6, 7, 599, 600, MOST}) {
+        for (int i : new int[] {LEAST, -1, 0, 18, 19, 599, 600, MOST}) {
             bounds("what of event " + i, TOWN_UP, call, new int[] {i, 0}, 1, 0, 3);
             bounds("what of event " + i + " of none", NEW, call, new int[] {i, 0}, 1, 0, 3);
         }
         Tree x = town(true);
-        due("events", x.total(4), 7);
-        for (int i : new int[] {LEAST, -1, 7, 599, 600, MOST}) {
+        due("events", x.total(4), 19);
+        for (int i : new int[] {LEAST, -1, 19, 599, 600, MOST}) {
             dueRow("none there, " + i, eventRow(x, i), NONE, NONE, NONE, NONE);
         }
         dueRow("the first", eventRow(x, 0), 7, 5, 0, 0);
-        dueRow("the last", eventRow(x, 6), 1, 0, 3, 0);
+        dueRow("the last", eventRow(x, 18), 1, 4, 14, 0);
     }
 
     private static void total() {
@@ -271,13 +271,14 @@ public final class NumbersTest extends Checks {
 
     /**
      * 0 keeps worker 1 and keeper 2, which keeps the workers 3 and 4; worker 5 and keeper 6 with its
-     * worker 7 are gone. No number in it is the one that a refused call brings.
+     * worker 7 are gone. No number in it is the one that a refused call brings. If it is up, both
+     * keepers have a restart counted.
      */
     private static Tree town(boolean up) {
         Tree x = new Tree();
-        x.first(REST, 3, 10);
+        x.first(REST, 3, 20);
         x.worker(0, PERMANENT, 4, 1, 3, 0);
-        x.keeper(0, PERMANENT, ALL, 2, 4);
+        x.keeper(0, PERMANENT, ALL, 2, 8);
         x.worker(2, TRANSIENT, 3, 1, 2, 0);
         x.worker(2, PERMANENT, 2, 1, 3, 0);
         x.worker(0, PERMANENT, 1, 1, 1, 0);
@@ -287,9 +288,11 @@ public final class NumbersTest extends Checks {
         x.remove(6);
         if (up) {
             x.begin();
-            return x;
+            x.ends(1, 2);
+            x.ends(4, 2);
+        } else {
+            x.failing(3, 2);
         }
-        x.failing(3, 2);
         return x;
     }
 

@@ -1,4 +1,4 @@
-/** One method for each promise of the document: ordinary inputs, the edges it names, wrong inputs. */
+/** At least one method for each promise of the document, with ordinary inputs and with wrong ones. */
 public final class PromiseTest extends Checks {
     public static void main(String[] args) {
         subject("promise 1");
