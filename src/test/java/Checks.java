@@ -88,7 +88,7 @@ abstract class Checks {
         dueText(call + ", what comes of it", everything(after), everything(twin));
     }
 
-    static int[] abouts(Tree x, int node) {
+    static int[] abouts(Face x, int node) {
         int[] row = new int[8];
         for (int what = 0; what < row.length; what++) {
             row[what] = x.about(node, what);
@@ -96,7 +96,7 @@ abstract class Checks {
         return row;
     }
 
-    static int[] totals(Tree x) {
+    static int[] totals(Face x) {
         int[] row = new int[7];
         for (int what = 0; what < row.length; what++) {
             row[what] = x.total(what);
@@ -104,7 +104,7 @@ abstract class Checks {
         return row;
     }
 
-    static int[] row(Tree x, int keeper) {
+    static int[] row(Face x, int keeper) {
         int[] row = new int[x.about(keeper, 5)];
         for (int i = 0; i < row.length; i++) {
             row[i] = x.child(keeper, i);
@@ -112,7 +112,7 @@ abstract class Checks {
         return row;
     }
 
-    static int[] eventRow(Tree x, int i) {
+    static int[] eventRow(Face x, int i) {
         int[] row = new int[4];
         for (int what = 0; what < row.length; what++) {
             row[what] = x.event(i, what);
@@ -121,7 +121,7 @@ abstract class Checks {
     }
 
     /** All that can be asked of it. */
-    static String everything(Tree x) {
+    static String everything(Face x) {
         StringBuilder all = new StringBuilder(Arrays.toString(totals(x)));
         int made = x.total(1);
         for (int node = 0; node < made; node++) {
@@ -175,10 +175,12 @@ abstract class Checks {
         }
     }
 
-    private static void dueText(String call, String got, String want) {
+    /** Whether it is so. */
+    static boolean dueText(String call, String got, String want) {
         if (!got.equals(want)) {
             tellWrong(call, got, want);
         }
+        return got.equals(want);
     }
 
     private static void tellWrong(String call, String got, String want) {

@@ -1,203 +1,204 @@
+import java.util.Arrays;
 import java.util.Random;
+import java.util.function.ToIntFunction;
 
-/** Long runs of calls, right and wrong ones, with what must hold after every one of them. */
+/** Long runs of calls, right and wrong ones, of the class and of the model: every answer is the same. */
 public final class RandomRunsTest extends Checks {
-    private static final int RUNS = 60;
-    private static final int CALLS = 250;
+    private static final int RUNS = 400;
+    private static final int CALLS = 300;
+    /** All that can be asked is asked after so many calls; the answer and the totals after each. */
+    private static final int CALLS_BETWEEN_LOOKS = 100;
+
+    /** A call, and its text for the one who looks for a fault. */
+    private record Step(String text, ToIntFunction<Face> call) {
+    }
 
     private final Tree tree = new Tree();
+    private final Model model = new Model();
     private final Random random;
-    private final int run;
-    private final int[] keeperOf = new int[80];
-    private final int[] replayed = new int[80];
-    private int eventsSeen = 0;
-    private int lastTime = 0;
-    private int gaveUp = 0;
-    private String lastCall = "";
-    private boolean right = true;
+    private final int mostUnits;
+    private final int mostFailures;
+    private final int mostR;
+    private final int oneWrongIn;
 
+    /** Runs differ in how long starts take, how many fail, how soon keepers give up, what is wrong. */
     private RandomRunsTest(int run) {
-        this.run = run;
-        this.random = new Random(run);
-        keeperOf[0] = NONE;
+        random = new Random(run);
+        mostUnits = random.nextInt(5);
+        mostFailures = random.nextInt(4) * random.nextInt(4);
+        mostR = 1 + random.nextInt(12);
+        oneWrongIn = 20 + random.nextInt(200);
     }
 
     public static void main(String[] args) {
-        int wrong = 0;
         for (int run = 0; run < RUNS; run++) {
-            RandomRunsTest test = new RandomRunsTest(run);
-            test.go();
-            wrong += test.right ? 0 : 1;
+            subject("run " + run);
+            new RandomRunsTest(run).go();
         }
-        System.out.println(wrong == 0 ? "all runs are as due" : wrong + " runs are not as due");
-        if (wrong != 0) {
-            System.exit(1);
-        }
+        closeTest();
     }
 
     private void go() {
-        for (int i = 0; i < CALLS && right; i++) {
-            Tree before = tree.copy();
-            try {
-                call();
-            } catch (RuntimeException e) {
-                want(e.getClass() == ARGUMENT || e.getClass() == STATE, "throws " + e.getClass());
-                want(everything(before).equals(everything(tree)), "a refused call changes nothing");
+        boolean same = true;
+        for (int i = 1; i <= CALLS && same; i++) {
+            Step step = nextStep();
+            String text = "call " + i + ", " + step.text;
+            same = dueText(text, answer(tree, step), answer(model, step))
+                    && dueText(text + ", totals", listed(totals(tree)), listed(totals(model)));
+            if (same && i % CALLS_BETWEEN_LOOKS == 0) {
+                same = dueText(text + ", all that can be asked", everything(tree), everything(model));
             }
-            replay();
-            lookAtTree();
         }
     }
 
+    private static String answer(Face face, Step step) {
+        try {
+            return Integer.toString(step.call.applyAsInt(face));
+        } catch (RuntimeException e) {
+            return "throws " + e.getClass().getSimpleName();
+        }
+    }
+
+    private Step nextStep() {
+        boolean isUp = model.state(0) == UP;
+        switch (random.nextInt(isUp ? 12 : 6)) {
+            case 0:
+                return makesKeeper();
+            case 1:
+            case 2:
+                return makesWorker();
+            case 3:
+                return isUp ? ends() : begins();
+            case 4:
+                return asks();
+            case 5:
+                return random.nextInt(3) == 0 ? anyChange() : isUp ? ends() : begins();
+            case 6:
+                return fails();
+            case 7:
+                return anyChange();
+            default:
+                return ends();
+        }
+    }
+
+    private Step anyChange() {
+        int node = node();
+        switch (random.nextInt(8)) {
+            case 0:
+                return new Step("kill(" + node + ")", x -> x.kill(node));
+            case 1:
+                return new Step("stop(" + node + ")", x -> {
+                    x.stop(node);
+                    return 0;
+                });
+            case 2:
+            case 3:
+            case 4:
+                return new Step("again(" + node + ")", x -> x.again(node) ? 1 : 0);
+            case 5:
+                return random.nextInt(4) == 0 ? new Step("remove(" + node + ")", x -> x.remove(node)) : passes();
+            case 6:
+                return changesFirst();
+            default:
+                return begins();
+        }
+    }
+
+    private Step makesKeeper() {
+        int[] n = {keeperNode(), within(0, 2), within(0, 2), within(0, mostR, 50), within(1, 20, 1000)};
+        return new Step("keeper" + listed(n), x -> x.keeper(n[0], n[1], n[2], n[3], n[4]));
+    }
+
+    private Step makesWorker() {
+        int failures = random.nextInt(4) == 0 ? within(0, mostFailures, 50) : 0;
+        int[] n = {keeperNode(), within(0, 2), within(NONE, 4, 1000), within(0, mostUnits, 100),
+            within(0, 5, 100), failures};
+        return new Step("worker" + listed(n), x -> x.worker(n[0], n[1], n[2], n[3], n[4], n[5]));
+    }
+
+    private Step changesFirst() {
+        int[] n = {within(0, 2), within(0, mostR, 50), within(1, 20, 1000)};
+        return new Step("first" + listed(n), x -> {
+            x.first(n[0], n[1], n[2]);
+            return 0;
+        });
+    }
+
+    private Step fails() {
+        int[] n = {node(), within(0, mostFailures, 50)};
+        return new Step("failing" + listed(n), x -> x.failing(n[0], n[1]));
+    }
+
+    private Step begins() {
+        return new Step("begin()", x -> x.begin() ? 1 : 0);
+    }
+
+    private Step ends() {
+        int[] n = {node(), within(0, 9)};
+        return new Step("ends" + listed(n), x -> {
+            x.ends(n[0], n[1]);
+            return 0;
+        });
+    }
+
+    private Step passes() {
+        int n = within(0, 30, 10000);
+        return new Step("pass(" + n + ")", x -> x.pass(n));
+    }
+
+    private Step asks() {
+        int[] n = {node(), within(0, 7), within(0, 20)};
+        switch (random.nextInt(5)) {
+            case 0:
+                return new Step("state(" + n[0] + ")", x -> x.state(n[0]));
+            case 1:
+                return new Step("about" + listed(n), x -> x.about(n[0], n[1]));
+            case 2:
+                return new Step("child" + listed(n), x -> x.child(n[0], n[2]));
+            case 3:
+                return new Step("event" + listed(n), x -> x.event(n[2], n[1]));
+            default:
+                return new Step("total" + listed(n), x -> x.total(n[1]));
+        }
+    }
+
+    /** One that is there, as a rule, or the next ones to it. */
     private int node() {
-        return random.nextInt(tree.total(1) + 2) - 1;
+        int made = model.total(1);
+        return isWrongNow() ? (random.nextBoolean() ? NONE : made) : random.nextInt(made);
+    }
+
+    /** Looks a few times for a keeper, so that trees grow. */
+    private int keeperNode() {
+        int node = node();
+        for (int i = 0; i < 6 && !isKeeper(node); i++) {
+            node = node();
+        }
+        return node;
+    }
+
+    private boolean isKeeper(int node) {
+        return node >= 0 && node < model.total(1) && model.state(node) != GONE && model.about(node, 4) == 1;
     }
 
     private int within(int least, int most) {
-        return random.nextInt(25) == 0 ? (random.nextBoolean() ? least - 1 : most + 1)
-                : least + random.nextInt(most - least + 1);
+        return within(least, most, most);
     }
 
-    private void call() {
-        int of = node();
-        int made = tree.total(1);
-        switch (random.nextInt(14)) {
-            case 0:
-                lastCall = "keeper";
-                tree.keeper(of, within(0, 2), within(0, 2), within(0, 4), within(1, 20));
-                keeperOf[made] = of;
-                break;
-            case 1:
-            case 2:
-                lastCall = "worker";
-                int number = tree.worker(of, within(0, 2), within(-1, 5), within(0, 3), within(0, 6),
-                        random.nextInt(4) == 0 ? within(0, 3) : 0);
-                keeperOf[made] = of;
-                want(number == (tree.state(made) == 2 ? NONE : made), "the worker's number");
-                break;
-            case 3:
-                lastCall = "failing";
-                tree.failing(of, within(0, 3));
-                break;
-            case 4:
-            case 5:
-                lastCall = "begin";
-                want(tree.begin() == (tree.state(0) == 1), "what begin() answers");
-                break;
-            case 6:
-            case 7:
-            case 8:
-                lastCall = "ends";
-                tree.ends(of, within(0, 9));
-                break;
-            case 9:
-                lastCall = "kill";
-                int up = tree.total(4);
-                int killed = tree.kill(of);
-                want(tree.total(4) >= up + killed, "as many are killed as told");
-                break;
-            case 10:
-                lastCall = "stop";
-                tree.stop(of);
-                want(tree.state(of) != 1, "a stopped one is not up");
-                break;
-            case 11:
-                lastCall = "again";
-                want(tree.again(of) == (tree.state(of) == 1), "what again() answers");
-                break;
-            case 12:
-                lastCall = "remove";
-                if (random.nextInt(4) == 0) {
-                    int gone = tree.total(3);
-                    want(tree.remove(of) == tree.total(3) - gone, "what remove() answers");
-                }
-                break;
-            default:
-                lastCall = "pass or first";
-                if (random.nextBoolean()) {
-                    want(tree.pass(within(0, 5)) == tree.total(0), "what pass() answers");
-                } else {
-                    tree.first(within(0, 2), within(0, 9), within(1, 20));
-                }
+    /** As a rule least .. usual, seldom as far as most, and once in a while the next to that. */
+    private int within(int least, int usual, int most) {
+        if (isWrongNow()) {
+            return random.nextBoolean() ? least - 1 : most + 1;
         }
+        return least + random.nextInt((random.nextInt(50) == 0 ? most : usual) - least + 1);
     }
 
-    /** The events alone tell each node's state, as long as they are kept. */
-    private void replay() {
-        for (; eventsSeen < tree.total(4) && eventsSeen < 600; eventsSeen++) {
-            int node = tree.event(eventsSeen, 1);
-            int time = tree.event(eventsSeen, 2);
-            want(time >= lastTime && time <= tree.total(0), "TIME goes on");
-            lastTime = time;
-            switch (tree.event(eventsSeen, 0)) {
-                case 1:
-                    want(replayed[node] == 0, "only one that is down comes up");
-                    replayed[node] = 1;
-                    break;
-                case 2:
-                    want(replayed[node] == 0, "only one that is down fails");
-                    break;
-                case 3:
-                case 4:
-                case 5:
-                    want(replayed[node] == 1, "only one that is up is ended");
-                    replayed[node] = 0;
-                    break;
-                case 6:
-                    want(replayed[node] == 1, "only one that is up gives up");
-                    replayed[node] = 0;
-                    gaveUp++;
-                    break;
-                default:
-                    want(replayed[node] == 0, "only one that is down is gone");
-                    goneWithAllBelow(node);
-            }
-        }
-        if (tree.total(4) > 600) {
-            want(tree.event(599, 0) > 0 && tree.event(600, 0) == NONE, "600 events are kept");
-            return;
-        }
-        want(gaveUp == tree.total(6), "keepers that gave up");
-        for (int node = 0; node < tree.total(1); node++) {
-            want(replayed[node] == tree.state(node), "state of " + node + " is as told");
-        }
+    private boolean isWrongNow() {
+        return random.nextInt(oneWrongIn) == 0;
     }
 
-    private void goneWithAllBelow(int top) {
-        replayed[top] = 2;
-        for (int node = top + 1; node < 80; node++) {
-            if (node < tree.total(1) && replayed[keeperOf[node]] == 2) {
-                replayed[node] = 2;
-            }
-        }
-    }
-
-    private void lookAtTree() {
-        int[] count = new int[3];
-        for (int node = 0; node < tree.total(1); node++) {
-            count[tree.state(node)]++;
-            if (node > 0 && tree.state(node) != 2) {
-                lookAtChild(node);
-            }
-        }
-        want(count[1] == tree.total(2), "nodes that are up");
-        want(count[2] == tree.total(3), "nodes that are gone");
-    }
-
-    private void lookAtChild(int node) {
-        int keeper = tree.about(node, 0);
-        want(keeper == keeperOf[node], "keeper of " + node);
-        want(tree.child(keeper, tree.about(node, 1)) == node, "place of " + node);
-        want(tree.about(node, 2) == tree.about(keeper, 2) + 1, "depth of " + node);
-        want(tree.state(node) == 0 || tree.state(keeper) == 1, "only a keeper that is up has children up");
-        want(tree.about(node, 3) != 2 || tree.state(node) == tree.state(keeper),
-                "a temporary child is up as long as its keeper");
-    }
-
-    private void want(boolean holds, String what) {
-        if (!holds && right) {
-            right = false;
-            System.out.println("run " + run + ", after " + lastCall + ": not so: " + what);
-        }
+    private static String listed(int[] numbers) {
+        return Arrays.toString(numbers).replace('[', '(').replace(']', ')');
     }
 }

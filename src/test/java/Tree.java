@@ -6,7 +6,7 @@ import java.util.function.ToIntFunction;
  * A KeeperTree that a test may ask as often as it likes. Nothing is promised of an object after its
  * 512th call, so before that a new one is made by the same changing calls, and asked instead.
  */
-final class Tree {
+final class Tree implements Face {
     private static final int MOST_CALLS = 512;
 
     private final List<ToIntFunction<KeeperTree>> changes = new ArrayList<>();
@@ -21,76 +21,76 @@ final class Tree {
         return copy;
     }
 
-    void first(int strategy, int r, int t) {
+    public void first(int strategy, int r, int t) {
         change(x -> {
             x.first(strategy, r, t);
             return 0;
         });
     }
 
-    int keeper(int of, int kind, int strategy, int r, int t) {
+    public int keeper(int of, int kind, int strategy, int r, int t) {
         return change(x -> x.keeper(of, kind, strategy, r, t));
     }
 
-    int worker(int of, int kind, int patience, int start, int stop, int failures) {
+    public int worker(int of, int kind, int patience, int start, int stop, int failures) {
         return change(x -> x.worker(of, kind, patience, start, stop, failures));
     }
 
-    int failing(int worker, int failures) {
+    public int failing(int worker, int failures) {
         return change(x -> x.failing(worker, failures));
     }
 
-    boolean begin() {
+    public boolean begin() {
         return change(x -> x.begin() ? 1 : 0) == 1;
     }
 
-    void ends(int worker, int reason) {
+    public void ends(int worker, int reason) {
         change(x -> {
             x.ends(worker, reason);
             return 0;
         });
     }
 
-    int kill(int node) {
+    public int kill(int node) {
         return change(x -> x.kill(node));
     }
 
-    void stop(int child) {
+    public void stop(int child) {
         change(x -> {
             x.stop(child);
             return 0;
         });
     }
 
-    boolean again(int child) {
+    public boolean again(int child) {
         return change(x -> x.again(child) ? 1 : 0) == 1;
     }
 
-    int remove(int child) {
+    public int remove(int child) {
         return change(x -> x.remove(child));
     }
 
-    int pass(int n) {
+    public int pass(int n) {
         return change(x -> x.pass(n));
     }
 
-    int state(int node) {
+    public int state(int node) {
         return ask(x -> x.state(node));
     }
 
-    int about(int node, int what) {
+    public int about(int node, int what) {
         return ask(x -> x.about(node, what));
     }
 
-    int child(int keeper, int i) {
+    public int child(int keeper, int i) {
         return ask(x -> x.child(keeper, i));
     }
 
-    int event(int i, int what) {
+    public int event(int i, int what) {
         return ask(x -> x.event(i, what));
     }
 
-    int total(int what) {
+    public int total(int what) {
         return ask(x -> x.total(what));
     }
 
